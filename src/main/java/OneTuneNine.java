@@ -32,6 +32,8 @@ public final class OneTuneNine {
   private static final int MOST_SEEDS = 20;
   private static final int MOST_AGREEING = 12;
   private static final int TRIED_ENTRIES = 31;
+  /** 15 pairs of voices; a pair with one slow meets in the most ways, some 79, when there are 13 notes. */
+  private static final int MOST_WAYS = 1200;
 
   private static final int STEPS = 7;
   private static final int LAW_AT_FIRST = 53;
@@ -290,7 +292,7 @@ public final class OneTuneNine {
     switch (what) {
       case 0: return told.tune.notes();
       case 1: return told.voices();
-      case 2: return told.tune.beats();
+      case 2: return told.tune.beats;
       case 3: return told.end();
       case 4: return told.rounds;
       case 5: return told.step;
@@ -365,13 +367,10 @@ public final class OneTuneNine {
     private final Row pitches = new Row(MOST_NOTES + 1);
     private final Row lengths = new Row(MOST_NOTES + 1);
     private final Row noteOfBeat = new Row(MOST_NOTES * MOST_LENGTH + 1);
+    private int beats = 0;
 
     int notes() {
       return pitches.size();
-    }
-
-    int beats() {
-      return noteOfBeat.size();
     }
 
     boolean has(int note) {
@@ -413,10 +412,11 @@ public final class OneTuneNine {
       for (int i = 0; i < length && i < MOST_LENGTH; i++) {
         noteOfBeat.add(note);
       }
+      beats = noteOfBeat.size();
     }
 
     boolean isMirror() {
-      int last = beats() - 1;
+      int last = beats - 1;
       for (int j = 0; j < last - j; j++) {
         if (plainAt(j) != plainAt(last - j)) {
           return false;
@@ -430,6 +430,7 @@ public final class OneTuneNine {
         pitches.copyFrom(other.pitches);
         lengths.copyFrom(other.lengths);
         noteOfBeat.copyFrom(other.noteOfBeat);
+        beats = other.beats;
       }
     }
   }
@@ -440,7 +441,8 @@ public final class OneTuneNine {
     private final Row kinds = new Row(MOST_VOICES + 1);
     private final Row starts = new Row(MOST_VOICES + 1);
     private final Row highs = new Row(MOST_VOICES + 1);
-    private final Row now = new Row(MOST_VOICES + 1);
+    private final Row singers = new Row(MOST_VOICES + 1);
+    private final Row sounds = new Row(MOST_VOICES + 1);
     private int rounds = 1;
     private int step = 0;
     private int law = LAW_AT_FIRST;
@@ -525,7 +527,7 @@ public final class OneTuneNine {
     }
 
     int roundBeats(int voice) {
-      return kinds.get(voice) == SLOW ? 2 * tune.beats() : tune.beats();
+      return kinds.get(voice) == SLOW ? 2 * tune.beats : tune.beats;
     }
 
     int stillFrom(int voice) {
@@ -534,14 +536,14 @@ public final class OneTuneNine {
 
     int end() {
       int last = 0;
-      for (int voice = 0; voice < voices() && tune.beats() > 0; voice++) {
+      for (int voice = 0; voice < voices() && tune.beats > 0; voice++) {
         last = Math.max(last, stillFrom(voice));
       }
       return last;
     }
 
-    /** Which beat of the tune a voice takes its note from; -1 if it sounds nothing. */
-    private int tuneBeat(int voice, int beat) {
+    /** The note that a voice sings at a beat; -1 if it sings none. */
+    int noteSung(int voice, int beat) {
       int round = roundBeats(voice);
       int gone = beat - starts.get(voice);
       if (round <= 0 || gone < 0 || gone >= rounds * round) {
@@ -550,64 +552,59 @@ public final class OneTuneNine {
       int j = gone % round;
       switch (kinds.get(voice)) {
         case BACKWARD:
-        case CRAB: return round - 1 - j;
-        case SLOW: return j / 2;
-        default: return j;
+        case CRAB: return tune.noteAt(tune.beats - 1 - j);
+        case SLOW: return tune.noteAt(j / 2);
+        default: return tune.noteAt(j);
       }
     }
 
-    private static boolean turnsOver(int kind) {
+    boolean isTurned(int voice) {
+      int kind = kinds.get(voice);
       return kind == TURNED || kind == CRAB;
     }
 
-    int soundOf(int voice, int beat) {
-      int from = tuneBeat(voice, beat);
+    /** How far above its note, or above its note turned over, a voice sounds at a beat at which it sings. */
+    int lift(int voice, int beat) {
       int round = roundBeats(voice);
-      if (from < 0 || round <= 0) {
+      int past = round > 0 ? (beat - starts.get(voice)) / round : 0;
+      int byKind = kinds.get(voice) == FIFTH ? 4 : 0;
+      return byKind + highs.get(voice) + step * past;
+    }
+
+    int soundOf(int voice, int beat) {
+      int note = noteSung(voice, beat);
+      if (note < 0) {
         return SILENCE;
       }
-      int kind = kinds.get(voice);
-      int sounds = tune.plainAt(from);
-      if (turnsOver(kind)) {
-        sounds = 2 * tune.pitchOf(0) - sounds;
-      } else if (kind == FIFTH) {
-        sounds += 4;
-      }
-      return sounds + highs.get(voice) + step * ((beat - starts.get(voice)) / round);
+      int pitch = tune.pitchOf(note);
+      int sung = isTurned(voice) ? 2 * tune.pitchOf(0) - pitch : pitch;
+      return sung + lift(voice, beat);
     }
 
-    /** Notes (bits) whose pitches tell what a voice sounds at a beat. */
-    int notesBehind(int voice, int beat) {
-      int from = tuneBeat(voice, beat);
-      if (from < 0) {
-        return 0;
-      }
-      int bits = 1 << tune.noteAt(from);
-      return turnsOver(kinds.get(voice)) ? bits | 1 : bits;
-    }
-
+    /** Finds who sings at a beat, in the order of the voices; most beats have fewer singers than voices. */
     private void listen(int beat) {
-      now.clear();
+      singers.clear();
+      sounds.clear();
       for (int voice = 0; voice < voices(); voice++) {
-        now.add(soundOf(voice, beat));
+        int sound = soundOf(voice, beat);
+        if (sound != SILENCE) {
+          singers.add(voice);
+          sounds.add(sound);
+        }
       }
     }
 
-    /** Whether two voices sound at the beat listened to and do not agree. */
+    /** Whether two singers of the beat listened to do not agree. */
     private boolean clash(int one, int other) {
-      int a = now.get(one);
-      int b = now.get(other);
-      if (a == SILENCE || b == SILENCE) {
-        return false;
-      }
-      return (law >> Math.abs(a - b) % STEPS & 1) == 0;
+      int difference = Math.abs(sounds.get(one) - sounds.get(other)) % STEPS;
+      return (law >> difference & 1) == 0;
     }
 
     int illsAt(int beat) {
       listen(beat);
       int ills = 0;
-      for (int one = 0; one < voices(); one++) {
-        for (int other = one + 1; other < voices(); other++) {
+      for (int one = 0; one < singers.size(); one++) {
+        for (int other = one + 1; other < singers.size(); other++) {
           if (clash(one, other)) {
             ills++;
           }
@@ -635,16 +632,12 @@ public final class OneTuneNine {
       return NONE;
     }
 
-    boolean isWell() {
-      return firstIllBeat() == NONE;
-    }
-
     int firstIllPair(int beat) {
       listen(beat);
-      for (int one = 0; one < voices(); one++) {
-        for (int other = one + 1; other < voices(); other++) {
+      for (int one = 0; one < singers.size(); one++) {
+        for (int other = one + 1; other < singers.size(); other++) {
           if (clash(one, other)) {
-            return 10 * one + other;
+            return 10 * singers.get(one) + singers.get(other);
           }
         }
       }
@@ -657,10 +650,10 @@ public final class OneTuneNine {
       int last = end();
       for (int beat = 0; beat < last; beat++) {
         listen(beat);
-        for (int one = 0; one < voices(); one++) {
-          for (int other = one + 1; other < voices(); other++) {
+        for (int one = 0; one < singers.size(); one++) {
+          for (int other = one + 1; other < singers.size(); other++) {
             if (clash(one, other)) {
-              bits &= 1 << one | 1 << other;
+              bits &= 1 << singers.get(one) | 1 << singers.get(other);
             }
           }
         }
@@ -668,13 +661,15 @@ public final class OneTuneNine {
       return bits;
     }
 
-    /** Whether a voice agrees with all the others at all beats. */
-    boolean agreesWithAll(int voice) {
+    /** Whether the last voice agrees with all the others at all beats. */
+    boolean lastAgreesWithAll() {
+      int voice = voices() - 1;
       int last = stillFrom(voice);
       for (int beat = starts.get(voice); beat < last; beat++) {
         listen(beat);
-        for (int other = 0; other < voices(); other++) {
-          if (other != voice && clash(voice, other)) {
+        int mine = singers.size() - 1;
+        for (int other = 0; other < mine; other++) {
+          if (clash(mine, other)) {
             return false;
           }
         }
@@ -722,9 +717,9 @@ public final class OneTuneNine {
     }
 
     private boolean isUnison() {
-      for (int one = 0; one < voices(); one++) {
-        for (int other = one + 1; other < voices(); other++) {
-          if (now.get(one) != SILENCE && now.get(one) == now.get(other)) {
+      for (int one = 0; one < sounds.size(); one++) {
+        for (int other = one + 1; other < sounds.size(); other++) {
+          if (sounds.get(one) == sounds.get(other)) {
             return true;
           }
         }
@@ -748,10 +743,102 @@ public final class OneTuneNine {
     }
   }
 
+  /**
+   * In which ways the notes meet in two voices, each way of two voices once, with how often it comes.
+   * What is ill depends on the pitches by these alone, and they are few where the beats are many.
+   */
+  private static final class Meetings {
+    private final Row ways = new Row(MOST_WAYS);
+    private final Row times = new Row(MOST_WAYS);
+
+    void gather(Canon canon) {
+      ways.clear();
+      times.clear();
+      if (canon == null) {
+        return;
+      }
+      for (int one = 0; one < canon.voices(); one++) {
+        for (int other = one + 1; other < canon.voices(); other++) {
+          int own = ways.size();
+          int begin = Math.max(canon.entryOf(one), canon.entryOf(other));
+          int end = Math.min(canon.stillFrom(one), canon.stillFrom(other));
+          for (int beat = begin; beat < end; beat++) {
+            meet(wayOf(canon, one, other, beat), own);
+          }
+        }
+      }
+    }
+
+    /** Bits 0 to 3 and 4 to 7 are the notes, 8 to 13 how far apart beside them, 14 if one alone is turned. */
+    private static int wayOf(Canon canon, int one, int other, int beat) {
+      int apart = canon.lift(one, beat) - canon.lift(other, beat);
+      boolean isOtherTurned = canon.isTurned(other);
+      // A difference has no sign: it is told so that the other's note counts down.
+      if (isOtherTurned) {
+        apart = -apart;
+      }
+      int notes = canon.noteSung(one, beat) | canon.noteSung(other, beat) << 4;
+      int turned = canon.isTurned(one) != isOtherTurned ? 1 << 14 : 0;
+      return notes | apart + 32 << 8 | turned;
+    }
+
+    private void meet(int way, int own) {
+      for (int i = ways.size() - 1; i >= own; i--) {
+        if (ways.get(i) == way) {
+          times.set(i, times.get(i) + 1);
+          return;
+        }
+      }
+      ways.add(way);
+      times.add(1);
+    }
+
+    int size() {
+      return ways.size();
+    }
+
+    /** Whether the notes of a way do not agree, by the pitches and the law of a canon. */
+    boolean isIll(int place, Canon canon) {
+      int way = ways.get(place);
+      Row pitches = canon.tune.pitches;
+      int one = pitches.get(way & 15);
+      int other = pitches.get(way >> 4 & 15);
+      int apart = (way >> 8 & 63) - 32;
+      int difference = apart + (way >> 14 == 0 ? one - other : 2 * pitches.get(0) - one - other);
+      return (canon.law >> Math.abs(difference) % STEPS & 1) == 0;
+    }
+
+    /** Notes (bits) whose pitches tell whether a way is ill. */
+    int notesOf(int place) {
+      int way = ways.get(place);
+      return 1 << (way & 15) | 1 << (way >> 4 & 15) | way >> 14;
+    }
+
+    boolean areWell(Canon canon) {
+      for (int place = 0; place < ways.size(); place++) {
+        if (isIll(place, canon)) {
+          return false;
+        }
+      }
+      return true;
+    }
+
+    int ills(Canon canon) {
+      int ills = 0;
+      for (int place = 0; place < ways.size(); place++) {
+        if (isIll(place, canon)) {
+          ills += times.get(place);
+        }
+      }
+      return ills;
+    }
+  }
+
   /** What would be if something were otherwise: it is tried in a canon of its own. */
   private static final class Mind {
     private final Canon trial = new Canon();
-    /** By note: notes (bits) that, changed together with it, touch all pairs that are ill. */
+    private final Meetings meetings = new Meetings();
+    /** By note: notes (bits) that, changed together with it, touch all that is ill. */
     private final Row mends = new Row(MOST_NOTES);
 
     Canon take(Canon told) {
@@ -766,7 +853,7 @@ public final class OneTuneNine {
       int bits = 0;
       for (int entry = 0; entry < TRIED_ENTRIES; entry++) {
         trial.setEntry(voice, entry);
-        if (trial.agreesWithAll(voice)) {
+        if (trial.lastAgreesWithAll()) {
           bits |= 1 << entry;
         }
       }
@@ -777,10 +864,11 @@ public final class OneTuneNine {
       take(told);
       int note = trial.tune.notes();
       trial.tune.add(0, 1);
+      meetings.gather(trial);
       int bits = 0;
       for (int pitch = 0; pitch <= MOST_PITCH; pitch++) {
         trial.tune.setPitch(note, pitch);
-        if (trial.isWell()) {
+        if (meetings.areWell(trial)) {
           bits |= 1 << pitch;
         }
       }
@@ -789,12 +877,13 @@ public final class OneTuneNine {
 
     int leastIlls(Canon told) {
       take(told);
-      int least = trial.illsInAll();
+      meetings.gather(trial);
+      int least = meetings.ills(trial);
       for (int note = 0; note < trial.tune.notes(); note++) {
         int was = trial.tune.pitchOf(note);
         for (int pitch = 0; pitch <= MOST_PITCH; pitch++) {
           trial.tune.setPitch(note, pitch);
-          least = Math.min(least, trial.illsInAll());
+          least = Math.min(least, meetings.ills(trial));
         }
         trial.tune.setPitch(note, was);
       }
@@ -803,6 +892,7 @@ public final class OneTuneNine {
 
     int wellDraws(Canon told, int times, int seed) {
       take(told);
+      meetings.gather(trial);
       int z = seed;
       int well = 0;
       for (int i = 0; i < times; i++) {
@@ -810,7 +900,7 @@ public final class OneTuneNine {
           z = z * 1664525 + 1013904223;
           trial.tune.setPitch(note, (z & 0x7fffffff) / 256 % (MOST_PITCH + 1));
         }
-        if (trial.isWell()) {
+        if (meetings.areWell(trial)) {
           well++;
         }
       }
@@ -819,7 +909,8 @@ public final class OneTuneNine {
 
     int fewestChanges(Canon told) {
       take(told);
-      if (trial.isWell()) {
+      meetings.gather(trial);
+      if (meetings.areWell(trial)) {
         return 0;
       }
       findMends();
@@ -831,28 +922,23 @@ public final class OneTuneNine {
 
     int firstChange(Canon told) {
       take(told);
-      if (trial.isWell()) {
+      meetings.gather(trial);
+      if (meetings.areWell(trial)) {
         return NONE;
       }
       findMends();
       return firstSingle();
     }
 
-    /** Most notes cannot mend all, because some ill pair does not sound them: those are not tried. */
+    /** Most notes cannot mend all, because something ill does not sound them: those are not tried. */
     private void findMends() {
       mends.clear();
       for (int note = 0; note < trial.tune.notes(); note++) {
         mends.add((1 << MOST_NOTES) - 1);
       }
-      int last = trial.end();
-      for (int beat = 0; beat < last; beat++) {
-        trial.listen(beat);
-        for (int one = 0; one < trial.voices(); one++) {
-          for (int other = one + 1; other < trial.voices(); other++) {
-            if (trial.clash(one, other)) {
-              keepMends(trial.notesBehind(one, beat) | trial.notesBehind(other, beat));
-            }
-          }
+      for (int place = 0; place < meetings.size(); place++) {
+        if (meetings.isIll(place, trial)) {
+          keepMends(meetings.notesOf(place));
         }
       }
     }
@@ -869,13 +955,13 @@ public final class OneTuneNine {
       return (mends.get(one) >> other & 1) == 1;
     }
 
-    /** The first pitch that mends all at one note; NONE. The note is then as it was. */
+    /** The first pitch of a note that mends all; NONE. The note is then as it was. */
     private int mendingPitch(int note) {
       int was = trial.tune.pitchOf(note);
       int found = NONE;
       for (int pitch = 0; pitch <= MOST_PITCH && found == NONE; pitch++) {
         trial.tune.setPitch(note, pitch);
-        if (trial.isWell()) {
+        if (meetings.areWell(trial)) {
           found = pitch;
         }
       }
@@ -895,24 +981,18 @@ public final class OneTuneNine {
 
     private boolean hasPair() {
       for (int one = 0; one < trial.tune.notes(); one++) {
-        for (int other = one + 1; other < trial.tune.notes(); other++) {
-          if (canMend(one, other) && mendsAsPair(one, other)) {
-            return true;
+        int was = trial.tune.pitchOf(one);
+        for (int pitch = 0; pitch <= MOST_PITCH; pitch++) {
+          trial.tune.setPitch(one, pitch);
+          for (int other = one + 1; other < trial.tune.notes(); other++) {
+            if (canMend(one, other) && mendingPitch(other) != NONE) {
+              return true;
+            }
           }
         }
+        trial.tune.setPitch(one, was);
       }
       return false;
-    }
-
-    private boolean mendsAsPair(int one, int other) {
-      int was = trial.tune.pitchOf(one);
-      boolean found = false;
-      for (int pitch = 0; pitch <= MOST_PITCH && !found; pitch++) {
-        trial.tune.setPitch(one, pitch);
-        found = mendingPitch(other) != NONE;
-      }
-      trial.tune.setPitch(one, was);
-      return found;
     }
   }
 

@@ -1,4 +1,6 @@
 import java.io.IOException;
+import java.io.PrintWriter;
+import java.io.StringWriter;
 import java.lang.reflect.Field;
 import java.lang.reflect.Method;
 import java.lang.reflect.Modifier;
@@ -7,13 +9,17 @@ import java.nio.file.Files;
 import java.nio.file.Path;
 import java.util.ArrayList;
 import java.util.Arrays;
+import java.util.HashMap;
+import java.util.HashSet;
 import java.util.List;
+import java.util.Map;
 import java.util.Set;
 import java.util.TreeSet;
 import java.util.regex.Matcher;
 import java.util.regex.Pattern;
+import java.util.spi.ToolProvider;
 
-/** What of ../shared/LANGUAGE.md can be seen from outside: the face, and words in the source. */
+/** What of ../shared/LANGUAGE.md can be seen from outside: the face, words in the source, calls in the class files. */
 public final class LanguageTest {
   private static final String[] FACE = {
       "int letter(int)", "int canon()", "int note(int,int)", "int voice(int,int)", "int pitch(int,int)",
@@ -30,6 +36,12 @@ public final class LanguageTest {
   private static final int MOST_PARAMETERS = 7;
   private static final int MOST_FIELDS = 20;
   private static final int MOST_CLASSES = 12;
+  private static final int MOST_DEPTH = 8;
+  private static final Set<String> LIBRARY = Set.of(
+      "java/lang/Object.\"<init>\"", "java/lang/Math.abs", "java/lang/Math.min", "java/lang/Math.max",
+      "java/lang/String.charAt", "java/lang/String.length");
+  /** The classes that look at indexes themselves; all others go through a Row. */
+  private static final Set<String> WITH_ARRAYS = Set.of("OneTuneNine$Row", "OneTuneNine$Walks");
 
   private static int wrong = 0;
 
@@ -42,6 +54,7 @@ public final class LanguageTest {
     if (args.length > 0) {
       source(Files.readAllLines(Path.of(args[0]), StandardCharsets.ISO_8859_1));
     }
+    classFiles();
     System.out.println("LanguageTest: " + wrong + " wrong");
     if (wrong != 0) {
       System.exit(1);
@@ -146,5 +159,65 @@ public final class LanguageTest {
         hold(end - i < MOST_LINES, "line " + (i + 1) + ": a method of " + (end - i) + " lines");
       }
     }
+  }
+
+  private static String disassembled() {
+    String home = OneTuneNine.class.getProtectionDomain().getCodeSource().getLocation().getPath();
+    List<String> told = new ArrayList<>(List.of("-c", "-p", "-cp", home, "OneTuneNine"));
+    for (Class<?> one : OneTuneNine.class.getDeclaredClasses()) {
+      told.add(one.getName());
+    }
+    StringWriter text = new StringWriter();
+    PrintWriter out = new PrintWriter(text);
+    int answer = ToolProvider.findFirst("javap").orElseThrow().run(out, out, told.toArray(new String[0]));
+    hold(answer == 0, "javap answered " + answer);
+    return text.toString();
+  }
+
+  private static void classFiles() {
+    Pattern classHead = Pattern.compile("^[\\w ]*class ([\\w$]+) \\{$");
+    Pattern methodHead = Pattern.compile("^  [^ ].*?([\\w$]+)\\(.*\\);$");
+    Pattern call = Pattern.compile("// (?:Interface)?Method (?:([\\w$/]+)\\.)?(\"<init>\"|\\w+):");
+    Map<String, Set<String>> calls = new HashMap<>();
+    String inClass = "";
+    String inMethod = "";
+    for (String line : disassembled().split("\n")) {
+      Matcher found = classHead.matcher(line);
+      if (found.find()) {
+        inClass = found.group(1);
+      }
+      found = methodHead.matcher(line);
+      if (found.find()) {
+        String name = found.group(1).equals(inClass) ? "\"<init>\"" : found.group(1);
+        inMethod = inClass + "." + name;
+        calls.put(inMethod, new HashSet<>());
+      }
+      found = call.matcher(line);
+      if (found.find()) {
+        String called = (found.group(1) == null ? inClass : found.group(1)) + "." + found.group(2);
+        hold(called.startsWith("OneTuneNine") || LIBRARY.contains(called), inMethod + " calls " + called);
+        calls.get(inMethod).add(called);
+      }
+      boolean indexes = line.matches(".*: ([ilbcsa]a(load|store)|a?newarray|arraylength)\\b.*");
+      hold(!indexes || WITH_ARRAYS.contains(inClass), inMethod + " uses an array itself: " + line);
+      hold(!line.matches(".*: (athrow|invokedynamic|instanceof|checkcast)\\b.*"), inMethod + ": " + line);
+    }
+    hold(calls.size() > FACE.length, "only " + calls.size() + " methods were found in the class files");
+    for (String method : calls.keySet()) {
+      int depth = depth(method, calls, 0);
+      hold(depth <= MOST_DEPTH, method + " goes " + depth + " deep");
+    }
+  }
+
+  /** How many methods of ours stand open at once at most, the first one too. */
+  private static int depth(String method, Map<String, Set<String>> calls, int above) {
+    if (!calls.containsKey(method) || above > 30) {
+      return above > 30 ? 1000 : 0;
+    }
+    int deepest = 0;
+    for (String called : calls.get(method)) {
+      deepest = Math.max(deepest, depth(called, calls, above + 1));
+    }
+    return deepest + 1;
   }
 }

@@ -26,6 +26,8 @@ public final class PromiseTest {
     added();
     silent();
     changed();
+    changedAtTheEdges();
+    changedUnderTurned();
     better();
     mirror();
     agreeing();
@@ -202,6 +204,11 @@ public final class PromiseTest {
       }
     }
     due("note(4, 0)", x.note(4, 0), -1);
+    OneTuneNine full = canonOf("n03;n13;n23;n33;n43;n53;n63;n73;n83;n93;n03;n53;");
+    due("note(11, 0)", full.note(11, 0), 5);
+    due("note(11, 1)", full.note(11, 1), 3);
+    due("note(11, 2)", full.note(11, 2), 33);
+    due("count(2)", full.count(2), 36);
     due("note(-1, 9)", x.note(-1, 9), -1);
     due("note(0, 3)", x.note(0, 3), -2);
     due("note(0, -1)", x.note(0, -1), -2);
@@ -497,6 +504,65 @@ public final class PromiseTest {
     due("changed(1)", x.changed(1), 3);
   }
 
+  /** Only a difference of 6 sounds well, so that most notes have one pitch or two beside their neighbours. */
+  private static OneTuneNine sixes(String notes) {
+    OneTuneNine x = canonOf(notes, "vv0,0;vv1,0;");
+    x.law(64);
+    return x;
+  }
+
+  private static void changedAtTheEdges() {
+    promise = "18 changed, edges";
+    // One note, and just one pitch of it: what is asked first must not matter.
+    String[] one = {"n01;n31;n91;", "n91;n61;n01;", "n91;n31;n01;", "n01;n61;n91;"};
+    int[] first = {9, 0, 29, 20};
+    for (int i = 0; i < one.length; i++) {
+      due("changed(1) of " + one[i], sixes(one[i]).changed(1), first[i]);
+      due("changed(0) of " + one[i], sixes(one[i]).changed(0), 1);
+      due("better() of " + one[i], sixes(one[i]).better(), 0);
+    }
+    // Two notes: the outermost at 9, at 0, and two that are neighbours.
+    String[] two = {"n01;n31;n91;n31;n01;", "n91;n61;n01;n61;n91;", "n01;n11;n21;n61;"};
+    int[] least = {1, 1, 2};
+    for (int i = 0; i < two.length; i++) {
+      String notes = two[i];
+      OneTuneNine x = sixes(notes);
+      due("changed(1) of " + notes, x.changed(1), -9);
+      due("changed(0) of " + notes, x.changed(0), 2);
+      due("changed(1) of " + notes, x.changed(1), -9);
+      due("better() of " + notes, x.better(), least[i]);
+    }
+    // Three ill pairs without a note in common to two of them.
+    OneTuneNine x = sixes("n01;n01;n61;n61;n01;n01;");
+    due("changed(0) of three", x.changed(0), -9);
+    due("better() of three", x.better(), 2);
+    // The same object, other notes: nothing of what was asked before may stay.
+    x = sixes("n01;n31;n91;");
+    due("changed(1)", x.changed(1), 9);
+    due("pitch(0, 9)", x.pitch(0, 9), 0);
+    due("changed(1)", x.changed(1), -9);
+    due("pitch(2, 0)", x.pitch(2, 0), 9);
+    due("changed(1)", x.changed(1), 29);
+    due("changed(0)", x.changed(0), 1);
+  }
+
+  private static void changedUnderTurned() {
+    promise = "18 changed, turned";
+    // 3 against 2 * 0 - 3: note 0 sounds nothing then, but as 2 it brings 3 and 1.
+    OneTuneNine x = canonOf("n01;n31;vv0,0;vt0,0;");
+    x.law(5);
+    due("changed(1)", x.changed(1), 2);
+    due("changed(0)", x.changed(0), 1);
+    due("better()", x.better(), 0);
+    // The crab sounds 5 and 4 against 4 and 3; with note 0 as 0 it sounds -3 and 0 against 0 and 3.
+    x = canonOf("n41;n31;vv0,0;vx0,0;");
+    dueSounds(x, 1, 0, 5, 4);
+    x.law(0);
+    due("changed(0) if nothing sounds well", x.changed(0), -9);
+    x.law(9);
+    due("changed(1)", x.changed(1), 0);
+  }
+
   private static void better() {
     promise = "19 better";
     OneTuneNine x = canonOf("n01;n11;n01;n11;vv0,0;vv1,0;");
@@ -595,6 +661,10 @@ public final class PromiseTest {
     tell(x, "vv0,0;vv0,7;");
     // Beat 0: 0 - 0 7; 1: 0 0 0 7; 2: 7 0 7 14; 3: - 7 - -.
     due("unison()", x.unison(), 3);
+    due("unison() of two alike", canonOf("n01;n12;vv3,1;vv3,1;r20;").unison(), 6);
+    due("unison() a step apart", canonOf("n01;n12;vv3,1;vv3,2;r20;").unison(), 0);
+    // A voice and a turned one meet at the first note and wherever it comes again.
+    due("unison() of a turned one", canonOf("n42;n51;n41;n91;vv0,0;vt0,0;").unison(), 3);
     due("unison() of a new one", new OneTuneNine().unison(), 0);
     due("unison() without notes", canonOf("vv0,0;vv0,0;").unison(), 0);
     due("unison() of one", canonOf("n01;vv0,0;").unison(), 0);
