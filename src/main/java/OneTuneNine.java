@@ -70,18 +70,17 @@ public final class OneTuneNine {
   }
 
   public int canon() {
-    int fault = text.formFault();
-    if (fault == 0) {
+    int answer = text.formFault();
+    if (answer == 0) {
       // It is told to a copy, because a fault in a late statement takes back the early ones.
       Canon trial = mind.take(told);
-      int answer = text.tellAll(trial);
+      answer = text.tellAll(trial);
       if (answer > 0) {
         told.copyFrom(trial);
       }
-      fault = answer;
     }
     text.clear();
-    return fault;
+    return answer;
   }
 
   public int note(int note, int what) {
@@ -306,6 +305,10 @@ public final class OneTuneNine {
   /** Which refusal a number outside its bounds calls for; 0 if it is inside. */
   private static int outside(int v, int least, int most) {
     return v < least ? BELOW : v > most ? ROOM : 0;
+  }
+
+  private static boolean soundsWell(int law, int difference) {
+    return (law >> (Math.abs(difference) % STEPS) & 1) == 1;
   }
 
   private int refuse(int number) {
@@ -596,8 +599,7 @@ public final class OneTuneNine {
 
     /** Whether two singers of the beat listened to do not agree. */
     private boolean clash(int one, int other) {
-      int difference = Math.abs(sounds.get(one) - sounds.get(other)) % STEPS;
-      return (law >> difference & 1) == 0;
+      return !soundsWell(law, sounds.get(one) - sounds.get(other));
     }
 
     int illsAt(int beat) {
@@ -779,7 +781,7 @@ public final class OneTuneNine {
       }
       int notes = canon.noteSung(one, beat) | canon.noteSung(other, beat) << 4;
       int turned = canon.isTurned(one) != isOtherTurned ? 1 << 14 : 0;
-      return notes | apart + 32 << 8 | turned;
+      return notes | (apart + 32) << 8 | turned;
     }
 
     private void meet(int way, int own) {
@@ -805,7 +807,7 @@ public final class OneTuneNine {
       int other = pitches.get(way >> 4 & 15);
       int apart = (way >> 8 & 63) - 32;
       int difference = apart + (way >> 14 == 0 ? one - other : 2 * pitches.get(0) - one - other);
-      return (canon.law >> Math.abs(difference) % STEPS & 1) == 0;
+      return !soundsWell(canon.law, difference);
     }
 
     /** Notes (bits) whose pitches tell whether a way is ill. */
@@ -1031,7 +1033,7 @@ public final class OneTuneNine {
       for (int next = 0; next < STEPS && next < longer.length; next++) {
         longer[next] = 0;
         for (int pitch = 0; pitch < STEPS && pitch < ending.length; pitch++) {
-          if ((law >> Math.abs(next - pitch) & 1) == 1) {
+          if (soundsWell(law, next - pitch)) {
             longer[next] += ending[pitch];
           }
         }
