@@ -32,8 +32,14 @@ public final class OneTuneNine {
   private static final int MOST_SEEDS = 20;
   private static final int MOST_AGREEING = 12;
   private static final int TRIED_ENTRIES = 31;
-  /** 15 pairs of voices; a pair with one slow meets in the most ways, some 79, when there are 13 notes. */
-  private static final int MOST_WAYS = 1200;
+  /**
+   * A way begins where a note of either voice begins. The most begin where a slow voice meets one that is
+   * not: that one's 13 notes (with the one thought of) in 4 rounds, while 2 slow rounds go by. Two that
+   * both are slow, or both not, come round again with each round, so they meet in at most 26.
+   */
+  private static final int MOST_WAYS_OF_TWO = 4 * (MOST_NOTES + 1) + 2 * (MOST_NOTES + 1);
+  private static final int MOST_PAIRS = MOST_VOICES * (MOST_VOICES - 1) / 2;
+  private static final int MOST_WAYS = MOST_PAIRS * MOST_WAYS_OF_TWO;
 
   private static final int STEPS = 7;
   private static final int LAW_AT_FIRST = 53;
